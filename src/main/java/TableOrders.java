@@ -419,11 +419,12 @@ public final class TableOrders {
             return reached(name, gone) & ~gone;
         }
 
+        /** How many pairs of a bag, none of whose names is gone, are no neighbours. */
         int fillOf(int bag, int gone) {
             int ends = 0;
             for (int name = 0; name < names; name++) {
                 if ((bag & 1 << name) != 0) {
-                    ends += Integer.bitCount(bag & ~bagOf(name, gone));
+                    ends += Integer.bitCount(bag & ~reached(name, gone));
                 }
             }
             return ends / 2;
@@ -633,28 +634,29 @@ public final class TableOrders {
             search.forget();
         }
 
+        /** Without an order that holds, the order is by numbers. */
         void refresh() {
-            if (!known) {
-                arrange(BY_NUMBERS);
+            if (known) {
+                return;
             }
+            kind = BY_NUMBERS;
+            for (int i = 0; i < graph.names; i++) {
+                nameAt[i] = i;
+            }
+            takeAllOut();
         }
 
         void arrange(int newKind) {
-            if (newKind == BEST_OF_ALL) {
+            kind = newKind;
+            if (kind == BEST_OF_ALL) {
                 search.find();
             }
-            kind = newKind;
-            width = -1;
-            fillInAll = 0;
-            cellsInAll = 0;
-            mostCells = 0;
             int gone = 0;
             for (int i = 0; i < graph.names; i++) {
-                int name = chosenAt(i, gone);
-                takeOut(i, name, gone);
-                gone |= 1 << name;
+                nameAt[i] = chosenAt(i, gone);
+                gone |= 1 << nameAt[i];
             }
-            known = true;
+            takeAllOut();
         }
 
         private int chosenAt(int i, int gone) {
@@ -696,15 +698,23 @@ public final class TableOrders {
             }
         }
 
-        private void takeOut(int i, int name, int gone) {
-            int bag = graph.bagOf(name, gone);
-            int cells = graph.cellsOf(bag);
-            nameAt[i] = name;
-            bagAt[i] = bag;
-            width = Math.max(width, Integer.bitCount(bag) - 1);
-            fillInAll += graph.fillOf(bag, gone);
-            cellsInAll += cells;
-            mostCells = Math.max(mostCells, cells);
+        private void takeAllOut() {
+            width = -1;
+            fillInAll = 0;
+            cellsInAll = 0;
+            mostCells = 0;
+            int gone = 0;
+            for (int i = 0; i < graph.names; i++) {
+                int bag = graph.bagOf(nameAt[i], gone);
+                int cells = graph.cellsOf(bag);
+                bagAt[i] = bag;
+                width = Math.max(width, Integer.bitCount(bag) - 1);
+                fillInAll += graph.fillOf(bag, gone);
+                cellsInAll += cells;
+                mostCells = Math.max(mostCells, cells);
+                gone |= 1 << nameAt[i];
+            }
+            known = true;
         }
 
         int parentOf(int i) {

@@ -133,6 +133,7 @@ public final class PromisesTest {
         x.order(5);
         due("refused name keeps the order", x.name(9), -2);
         due("kind kept", x.told(5), 5);
+        due("total before the name", x.total(), 4);
         x.name(2);
         due("a name makes the order 0", x.told(5), 0);
         due("the new name counts: total", x.total(), 8);
@@ -157,6 +158,12 @@ public final class PromisesTest {
         due("there is no 48", x.put(3, 48, 0), -2);
         due("a factor without names has one entry", x.put(0, 0, 3), 1);
         due("and no more", x.put(0, 1, 3), -2);
+
+        TableOrders single = withNames(2, 2);
+        single.factor(1);
+        putAll(single, 0, 3, 5);
+        due("a factor over name 0 alone", single.total(), 16);
+        due("its state", single.weight(2), 5);
 
         TableOrders full = withNames(2);
         for (int i = 0; i < 16; i++) {
@@ -206,6 +213,8 @@ public final class PromisesTest {
         due("v below 0", x.put(0, 0, -1), -2);
         due("nothing changed", x.put(0, 0, 1), 1);
         due("total follows", x.total(), 18);
+        x.put(0, 5, 4);
+        due("total follows again", x.total(), 19);
         // Lesser names' values step least: entry 1 is (1, 0), whose place among the states is 3.
         x.put(0, 1, 6);
         due("entry 1 is state (1, 0)", x.weight(3), 6);
@@ -221,6 +230,8 @@ public final class PromisesTest {
         due("an entry put later is cubed too", x.weight(0), 8);
         due("copies(0, 2)", x.copies(0, 2), 3);
         due("weight is squared", x.weight(4), 16);
+        due("weight of entry 0 is squared", x.weight(0), 4);
+        due("total is that of squares", x.total(), 4 + 4 + 9 + 16 + 25);
         due("no copies", x.copies(0, 0), -2);
         due("four copies", x.copies(0, 4), -2);
         due("factor unknown", x.copies(1, 2), -1);
@@ -323,7 +334,8 @@ public final class PromisesTest {
         x.place(1, 2);
         due("a place too few", x.order(1), -3);
         x.place(2, 1);
-        due("a name twice", x.order(1), -3);
+        x.place(3, 0);
+        due("a name twice, the third too late", x.order(1), -3);
         x.order(4);
         due("refused", x.order(1), -3);
         due("the order stays", x.told(5), 4);
@@ -393,6 +405,11 @@ public final class PromisesTest {
         // 1, 3 and 5 have 16 cells each between two of 2 values; 2 between 0 and 4 has 8.
         due("ring: cells", ring.told(8), 3 * 16 + 8 + 4 + 2);
         order("ring", ring, 1, 3, 2, 5, 0, 4);
+        ring.factor(1 << 1 | 1 << 4);
+        due("ring with a bar", ring.order(5), 2);
+        // 3 joins 2 and 4; then 2 has 1 and 4, 1 has 0 and 4, 5 has 0 and 4: 16 cells each.
+        due("ring with a bar: cells", ring.told(8), 4 * 16 + 4 + 2);
+        order("ring with a bar", ring, 3, 2, 1, 5, 0, 4);
         TableOrders none = withNames(3, 2, 4);
         due("no factors", none.order(5), 0);
         order("no factors", none, 0, 1, 2);
@@ -448,6 +465,7 @@ public final class PromisesTest {
         due("parent of 1 is at place 2", y.taken(0, 2), 2);
         due("parent of 2 is at place 2", y.taken(1, 2), 2);
         due("bag of 2", y.taken(1, 1), 5);
+        due("parent of 0, the last", y.taken(2, 2), -1);
     }
 
     private void promise11Told() {
@@ -514,6 +532,7 @@ public final class PromisesTest {
         due("of", x.share(3, 2, 1), 5);
         due("share of none is 0 / 1", x.share(3, 5, 0), 0);
         due("of", x.share(3, 5, 1), 1);
+        due("share of a total of 1", new TableOrders().share(0, 0, 1), 1);
         due("share of all", x.share(0, 0, 0), 1);
         due("of", x.share(0, 0, 1), 1);
         x.evidence(1, 0);
@@ -542,6 +561,10 @@ public final class PromisesTest {
         due("greatest", x.greatest(), 5);
         x.evidence(0, 1);
         due("greatest under evidence", x.greatest(), 4);
+        x.evidence(1, 1);
+        due("greatest of one state", x.greatest(), 4);
+        x.put(0, 3, 0);
+        due("greatest when that is 0", x.greatest(), 0);
         due("greatest of no weight", pairOfNoWeight().greatest(), 0);
         due("no room", pairWithoutRoom().greatest(), -4);
     }
@@ -554,6 +577,9 @@ public final class PromisesTest {
         putAll(x, 0, 1, 7, 7, 1, 1, 7);
         due("first best of 0", x.best(0), 0);
         due("first best of 1", x.best(1), 1);
+        x.evidence(0, 1);
+        x.evidence(1, 1);
+        due("best of one state", x.best(1), 1);
         due("no name 2", x.best(2), -1);
         due("no name -1", x.best(-1), -1);
         due("no room", pairWithoutRoom().best(0), -4);
@@ -597,6 +623,10 @@ public final class PromisesTest {
             due("many: name 2 at " + k, y.rank(k, 2), 3 - k / 8);
         }
         due("many: k 24", y.rank(24, -1), -2);
+        putAll(y, 0, 1, 1, 1, 1);
+        due("all alike: name 0 at 23", y.rank(23, 0), 1);
+        due("all alike: name 1 at 23", y.rank(23, 1), 1);
+        due("all alike: name 2 at 23", y.rank(23, 2), 3);
     }
 
     private void promise17Support() {
@@ -606,6 +636,10 @@ public final class PromisesTest {
         due("support under evidence", x.support(), 1);
         due("support of no weight", pairOfNoWeight().support(), 0);
         due("no room", pairWithoutRoom().support(), -4);
+        TableOrders zero = withNames(2);
+        zero.factor(0);
+        zero.put(0, 0, 0);
+        due("support when a factor without names is 0", zero.support(), 0);
         due("support of ones", withNames(4, 4, 4, 4, 4, 4, 4, 4).support(), 65536);
     }
 
