@@ -4,6 +4,7 @@ import java.util.Random;
 public final class RandomRunsTest {
     private static final int SMALL_RUNS = 2500;
     private static final int LARGE_RUNS = 25;
+    private static final int FULL_RUNS = 25;
 
     private final Check check = new Check();
     private final Random random;
@@ -24,19 +25,35 @@ public final class RandomRunsTest {
     public static void main(String[] args) {
         Check all = new Check();
         for (int seed = 0; seed < SMALL_RUNS; seed++) {
-            all.holds("run " + seed, new RandomRunsTest(seed, 6, 250).goes(120));
+            all.holds("run " + seed, new RandomRunsTest(seed, 6, 250).withSomeNames().goes(120));
         }
         for (int seed = SMALL_RUNS; seed < SMALL_RUNS + LARGE_RUNS; seed++) {
-            all.holds("run " + seed, new RandomRunsTest(seed, 12, 65536).goes(40));
+            all.holds("run " + seed, new RandomRunsTest(seed, 12, 65536).withSomeNames().goes(40));
+        }
+        for (int seed = 0; seed < FULL_RUNS; seed++) {
+            all.holds("full run " + seed, new RandomRunsTest(seed, 12, 65536).withAllNames().goes(120));
         }
         all.end();
     }
 
-    private boolean goes(int howMany) {
+    private RandomRunsTest withSomeNames() {
         int names = random.nextInt(mostNames + 1);
         for (int i = 0; i < names; i++) {
             addName();
         }
+        return this;
+    }
+
+    /** As many names as there can be, of which the last has as many values as it can have. */
+    private RandomRunsTest withAllNames() {
+        for (int i = 0; i < 12; i++) {
+            int n = i == 11 ? 4 : 2;
+            same("name(" + n + ")", it.name(n), due.name(n));
+        }
+        return this;
+    }
+
+    private boolean goes(int howMany) {
         int factors = random.nextInt(8);
         for (int i = 0; i < factors; i++) {
             addFactor();
