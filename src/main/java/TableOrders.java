@@ -16,7 +16,9 @@ public final class TableOrders {
     private static final int LEAST_VALUES = 2;
     private static final int MOST_VALUES = 4;
     private static final int MOST_STATES = 65536;
+    private static final int MOST_SETS = 1 << MOST_NAMES;
     private static final int MOST_NAMES_OF_FACTOR = 4;
+    private static final int MOST_CELLS_OF_FACTOR = 256;
     private static final int MOST_ENTRY = 7;
     private static final int MOST_COPIES_OF_FACTOR = 3;
     private static final int MOST_COPIES = 16;
@@ -81,7 +83,7 @@ public final class TableOrders {
         if (changed == null) {
             return UNKNOWN;
         }
-        if (entry < 0 || entry >= changed.entries.length || v < 0 || v > MOST_ENTRY) {
+        if (entry < 0 || entry >= changed.cells || v < 0 || v > MOST_ENTRY) {
             return OUTSIDE;
         }
         weights.forget();
@@ -447,34 +449,35 @@ public final class TableOrders {
         }
     }
 
-    /** One factor: its entries, and each entry as often as the factor has copies. */
+    /**
+     * One factor: its entries, and each entry as often as the factor has copies. Its rows are made
+     * once, as long as any factor needs them; of these the first cells, or names, are in use.
+     */
     private static final class Factor {
-        final int[] names;
-        final int[] steps;
-        final int[] entries;
-        final int[] powers;
-        /** The next factor whose last name is the same one, or null. */
-        final Factor next;
+        private final int[] names = new int[MOST_NAMES_OF_FACTOR];
+        private final int[] steps = new int[MOST_NAMES_OF_FACTOR];
+        private final int[] entries = new int[MOST_CELLS_OF_FACTOR];
+        private final int[] powers = new int[MOST_CELLS_OF_FACTOR];
+        private int size;
+        int cells = 1;
         int times = 1;
+        /** The next factor whose last name is the same one, or null. */
+        Factor next;
 
-        Factor(int set, Graph graph, Factor next) {
-            names = new int[Integer.bitCount(set)];
-            steps = new int[names.length];
-            int cells = 1;
-            int found = 0;
-            for (int name = 0; name < graph.names && found < names.length; name++) {
-                if ((set & 1 << name) != 0) {
-                    names[found] = name;
-                    steps[found] = cells;
-                    cells *= graph.values[name];
-                    found++;
-                }
-            }
-            entries = new int[cells];
-            powers = new int[cells];
+        Factor() {
             Arrays.fill(entries, 1);
             Arrays.fill(powers, 1);
-            this.next = next;
+        }
+
+        void spanNames(int set, Graph graph) {
+            for (int name = 0; name < graph.names && size < MOST_NAMES_OF_FACTOR; name++) {
+                if ((set & 1 << name) != 0) {
+                    names[size] = name;
+                    steps[size] = cells;
+                    cells *= graph.values[name];
+                    size++;
+                }
+            }
         }
 
         int setEntry(int entry, int v) {
@@ -487,7 +490,7 @@ public final class TableOrders {
         int setTimes(int n) {
             int before = times;
             times = n;
-            for (int entry = 0; entry < entries.length; entry++) {
+            for (int entry = 0; entry < cells; entry++) {
                 powers[entry] = power(entries[entry]);
             }
             return before;
@@ -503,7 +506,7 @@ public final class TableOrders {
 
         int entryAt(int[] chosen) {
             int entry = 0;
-            for (int i = 0; i < names.length; i++) {
+            for (int i = 0; i < size; i++) {
                 entry += chosen[names[i]] * steps[i];
             }
             return entry;
@@ -511,14 +514,14 @@ public final class TableOrders {
 
         int powerAt(int[] chosen) {
             int entry = entryAt(chosen);
-            return entry < powers.length ? powers[entry] : 0;
+            return entry < cells ? powers[entry] : 0;
         }
 
         /** Multiplies products[from ..] for the values 0, 1, .. of the last name; chosen has 0 there. */
         void multiply(long[] products, int from, int count, int[] chosen) {
-            int step = steps.length == 0 ? 0 : steps[steps.length - 1];
+            int step = size == 0 ? 0 : steps[size - 1];
             int entry = entryAt(chosen);
-            for (int v = 0; v < count && entry < powers.length; v++) {
+            for (int v = 0; v < count && entry < cells; v++) {
                 products[from + v] *= powers[entry];
                 entry += step;
             }
@@ -536,15 +539,20 @@ public final class TableOrders {
 
         Factors(Graph graph) {
             this.graph = graph;
+            // All are made here, so that no call makes anything; those from count on are not in use.
+            for (int number = 0; number < MOST_COPIES; number++) {
+                byNumber[number] = new Factor();
+            }
         }
 
         int add(int set) {
             int number = count;
-            if (number < MOST_COPIES) {
+            Factor added = number < MOST_COPIES ? byNumber[number] : null;
+            if (added != null) {
                 int chain = afterLastName(set);
-                Factor made = new Factor(set, graph, byLastName[chain]);
-                byNumber[number] = made;
-                byLastName[chain] = made;
+                added.spanNames(set, graph);
+                added.next = byLastName[chain];
+                byLastName[chain] = added;
                 count = number + 1;
                 copiesInAll++;
             }
@@ -737,8 +745,11 @@ public final class TableOrders {
 
         private final Graph graph;
         final int[] found = new int[MOST_NAMES];
-        private int[] cells = new int[0];
-        private int[] least = new int[0];
+        /** The cells of each set of names; those of a set stay when more names come. */
+        private final int[] cells = new int[MOST_SETS];
+        private final int[] least = new int[MOST_SETS];
+        /** For how many sets the cells have been counted. */
+        private int counted;
         private boolean known;
 
         Search(Graph graph) {
@@ -751,7 +762,7 @@ public final class TableOrders {
 
         void find() {
             if (!known) {
-                prepareRows();
+                countCells();
                 int width = leastWidth();
                 countLeastCells(width);
                 follow(width);
@@ -759,14 +770,10 @@ public final class TableOrders {
             }
         }
 
-        private void prepareRows() {
+        private void countCells() {
             int sets = graph.everyName() + 1;
-            if (cells.length != sets) {
-                cells = new int[sets];
-                least = new int[sets];
-                for (int set = 0; set < sets; set++) {
-                    cells[set] = graph.cellsOf(set);
-                }
+            for (; counted < sets; counted++) {
+                cells[counted] = graph.cellsOf(counted);
             }
         }
 
@@ -832,7 +839,8 @@ public final class TableOrders {
         final int[] bound = new int[MOST_NAMES];
         private final int[] chosen = new int[MOST_NAMES];
         private final long[] products = new long[MOST_NAMES * MOST_VALUES];
-        private long[] byState = new long[0];
+        /** Made once for the most states; the first of it, as many as there are states, are in use. */
+        private final long[] byState = new long[MOST_STATES];
         final long[] rankWeights = new long[MOST_RANKS];
         final int[] rankStates = new int[MOST_RANKS];
         int ranked;
@@ -867,10 +875,9 @@ public final class TableOrders {
             if (known) {
                 return;
             }
-            if (byState.length != graph.states) {
-                byState = new long[graph.states];
-            } else {
-                Arrays.fill(byState, 0L);
+            // The walk below passes over states of weight 0.
+            for (int state = 0; state < graph.states; state++) {
+                byState[state] = 0;
             }
             ranked = 0;
             supported = 0;
@@ -929,7 +936,7 @@ public final class TableOrders {
 
         int stateAbove(long u) {
             long before = 0;
-            for (int state = 0; state < byState.length; state++) {
+            for (int state = 0; state < graph.states; state++) {
                 before += byState[state];
                 if (before > u) {
                     return state;

@@ -25,6 +25,8 @@ public final class FaceTest {
         "\\bdouble\\b", "\\bfloat\\b", "\\bnew Random\\b", "\\bSystem\\.(?!arraycopy)", "Exact\\b", "\\bObject\\b",
         "\\bpackage\\b", "\\bstatic\\s*\\{", "while\\s*\\(true\\)", "for\\s*\\(;;",
     };
+    private static final String CONSTRUCTOR = " +(public )?[A-Z][A-Za-z]*\\(.*\\) \\{";
+    private static final String FIELD = "( {4}| {8})(private )?final .*;";
     private static final int MOST_LINES_OF_METHOD = 60;
     private static final int MOST_CLASSES = 12;
     private static final int MOST_FIELDS = 20;
@@ -101,9 +103,11 @@ public final class FaceTest {
             }
             boolean library = !code.startsWith("import") || code.equals("import java.util.Arrays;");
             check.holds("line " + (i + 1) + " imports what is listed", library);
-            if (code.matches("( {4}| {8})[a-z].*\\) \\{")) {
+            if (code.matches("( {4}| {8})[A-Za-z].*\\) \\{")) {
                 start = i;
             }
+            boolean ofConstructor = lines.get(start).matches(CONSTRUCTOR) || code.matches(FIELD);
+            check.holds("line " + (i + 1) + " makes nothing in a call", !code.matches(".*\\bnew\\b.*") || ofConstructor);
             if (code.matches("( {4}| {8})\\}")) {
                 check.holds("the method at line " + (start + 1) + " is short", i - start < MOST_LINES_OF_METHOD);
                 start = i;
