@@ -507,6 +507,25 @@ public final class BoundariesTest {
             taken 1 1 -> 30
             told 8 -> 34
             """);
+        test("5: the least WIDTH comes before the fewest CELLS, also when it is looked for again", """
+            names 4 4 2 2 2
+            factor 5
+            factor 9
+            factor 17
+            factor 6
+            factor 10
+            factor 18
+            order 5 -> 2
+            told 8 -> 106
+            factor 0
+            order 5 -> 2
+            told 8 -> 106
+            taken 0 0 -> 2
+            taken 1 0 -> 3
+            taken 2 0 -> 0
+            taken 3 0 -> 1
+            taken 4 0 -> 4
+            """);
         test("5: the least WIDTH comes before the fewest CELLS", """
             names 2 2 2 4 4
             factor 9
