@@ -37,7 +37,8 @@ public final class FaceTest {
         FaceTest test = new FaceTest();
         test.members();
         test.insideClasses();
-        test.source(Files.readAllLines(Path.of(System.getProperty("tableorders.source"))));
+        Path root = Path.of(System.getProperty("tableorders.root", "."));
+        test.source(Files.readAllLines(root.resolve("src/main/java/TableOrders.java")));
         test.check.end();
     }
 
